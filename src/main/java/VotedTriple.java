@@ -245,9 +245,18 @@ public final class VotedTriple {
 
     private void doInstructions() {
         for (int m = 0; m < MODULES; m++) {
-            modules[m].named = false;
-            if (modules[m].status == IN_STEP) {
-                modules[m].doInstruction(instructions);
+            modules[m].forgetLastStep();
+            if (modules[m].status != IN_STEP) {
+                continue;
+            }
+            if (modules[m].toSkip) {
+                modules[m].toSkip = false;
+                modules[m].passOver(instructions);
+            } else {
+                modules[m].execute(instructions);
+            }
+            if (modules[m].frozen) {
+                modules[m].wishNothing();
             }
         }
     }
@@ -462,7 +471,7 @@ public final class VotedTriple {
                     made |= 1 << (1 << k);
                 }
             }
-            return hasOddCount(made) ? made | 1 : made;
+            return made | Integer.bitCount(made) & 1;
         }
 
         static int wordOf(int code) {
@@ -473,24 +482,9 @@ public final class VotedTriple {
         static int exclusiveOr(int code) {
             int numbers = 0;
             for (int k = 0; k < CHECKED_BITS.length; k++) {
-                if (hasOddCount(code & CHECKED_BITS[k])) {
-                    numbers |= 1 << k;
-                }
+                numbers |= (Integer.bitCount(code & CHECKED_BITS[k]) & 1) << k;
             }
             return numbers;
-        }
-
-        /** The code with its one wrong bit put right; itself if it is right; NONE if it is spoilt. */
-        static int putRight(int code) {
-            int wrongBit = exclusiveOr(code);
-            if (hasOddCount(code)) {
-                return wrongBit < BITS ? code ^ 1 << wrongBit : NONE;
-            }
-            return wrongBit == 0 ? code : NONE;
-        }
-
-        private static boolean hasOddCount(int bits) {
-            return (Integer.bitCount(bits) & 1) != 0;
         }
     }
 
@@ -609,15 +603,17 @@ public final class VotedTriple {
                 registers[k] = 0;
             }
             counter = 0;
-            clearEffects();
         }
 
         final void clearEffects() {
-            wish = WISH_NOTHING;
-            wishedWord = 0;
+            wishNothing();
             inRegister = NONE;
             storedAt = NONE;
-            storedWord = 0;
+        }
+
+        final void wishNothing() {
+            wish = WISH_NOTHING;
+            wishedWord = 0;
         }
 
         final void passOver(Program program) {
@@ -638,7 +634,9 @@ public final class VotedTriple {
                     registers[a] = readWord((registers[b] + c) % WORDS);
                     break;
                 case Program.STORE:
-                    store((registers[b] + c) % WORDS, registers[a]);
+                    storedAt = (registers[b] + c) % WORDS;
+                    storedWord = registers[a];
+                    writeWord(storedAt, storedWord);
                     break;
                 case Program.ZERO:
                     counter = registers[a] == 0 ? b : counter;
@@ -664,12 +662,6 @@ public final class VotedTriple {
             if (inRegister != NONE) {
                 registers[inRegister] = word;
             }
-        }
-
-        private void store(int place, int word) {
-            writeWord(place, word);
-            storedAt = place;
-            storedWord = word;
         }
 
         private static int reckon(int op, int left, int right) {
@@ -747,7 +739,7 @@ public final class VotedTriple {
             toSkip = false;
             putRight = 0;
             timesNamed = 0;
-            named = false;
+            forgetLastStep();
         }
 
         boolean isTrusted() {
@@ -761,19 +753,10 @@ public final class VotedTriple {
             return status == IN_STEP ? WORDS : 0;
         }
 
-        void doInstruction(Program program) {
+        void forgetLastStep() {
             clearEffects();
+            named = false;
             readSpoilt = false;
-            if (toSkip) {
-                toSkip = false;
-                passOver(program);
-                return;
-            }
-            execute(program);
-            if (frozen) {
-                wish = WISH_NOTHING;
-                wishedWord = 0;
-            }
         }
 
         /** Two of these are equal just if the wishes, and having read a spoilt code, are alike. */
@@ -806,14 +789,15 @@ public final class VotedTriple {
 
         /** Reads a code, and puts it right in the memory if it can be. */
         boolean findsSpoilt(int place) {
-            int right = Code.putRight(codes[place]);
-            if (right == NONE) {
+            int wrongBit = Code.exclusiveOr(codes[place]);
+            if ((Integer.bitCount(codes[place]) & 1) == 0) {
+                return wrongBit != 0;
+            }
+            if (wrongBit >= Code.BITS) {
                 return true;
             }
-            if (right != codes[place]) {
-                codes[place] = right;
-                putRight++;
-            }
+            codes[place] ^= 1 << wrongBit;
+            putRight++;
             return false;
         }
 
