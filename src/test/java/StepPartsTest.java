@@ -161,6 +161,9 @@ final class StepPartsTest {
             x.step(2);
             Check.same("word 3 lies below the MARK", 150, x.code(m, 3));
             Check.same("MARK", 6, x.module(m, 1));
+            x.flip(m, 1, 3, 9);
+            x.step(1);
+            Check.same("a step without a STORE leaves word 3 alone", 150 + 512, x.code(m, 3));
         }
     }
 
