@@ -2,10 +2,15 @@ import java.util.LinkedHashMap;
 import java.util.Map;
 import java.util.Random;
 
-/** Runs of calls drawn from fixed seeds, on the program and on PlainModel: every answer must be the same. */
+/**
+ * Runs of calls drawn from fixed seeds, on the program and on PlainModel: every answer must be the same.
+ * A run keeps to the 512 calls that the document promises; the last ones ask for all there is.
+ */
 final class RandomRunsTest {
-    private static final int RUNS = 4000;
-    private static final int CALLS = 120;
+    private static final int RUNS = 24000;
+    private static final int MOST_CALLS = 512;
+    private static final int CALLS_TO_COMPARE_ALL = 3 * (32 + 6 + 8) + 7 + 8;
+    private static final int CALLS_OF_A_ROUND = 6 + 2;
 
     private static final String[] MUST_BE_SEEN = {
         "put right", "named in vote of 3", "named in vote of 2", "named in scrub of 3", "named in scrub of 2",
@@ -19,6 +24,7 @@ final class RandomRunsTest {
     private final PlainModel model = new PlainModel();
     private final String run;
     private int size;
+    private int calls;
 
     private RandomRunsTest(int seed) {
         random = new Random(seed);
@@ -42,6 +48,7 @@ final class RandomRunsTest {
     }
 
     private void both(String call, Asked model, Asked real) {
+        calls++;
         Check.same(run + call, answerOf(model), answerOf(real));
     }
 
@@ -72,7 +79,7 @@ final class RandomRunsTest {
         size = seldom(20) ? 64 : 1 + drawn(10);
         for (int i = 0; i < size; i++) {
             int place = seldom(50) ? drawn(70) - 2 : i;
-            for (int tries = 0; tries < 3; tries++) {
+            for (int tries = 0; tries < 3 && mayGoOn(); tries++) {
                 int word = drawInstruction();
                 both("program(" + place + ", " + word + ")", () -> number(model.program(place, word)),
                     () -> number(real.program(place, word)));
@@ -80,7 +87,7 @@ final class RandomRunsTest {
         }
         both("start()", () -> number(model.start()), () -> number(real.start()));
         // A jump to a place that is not there is mended by filling up.
-        for (int i = 0; i < 64 && real.state(0) == VotedTriple.NONE; i++) {
+        for (int i = 0; i < 64 && model.state(0) == VotedTriple.NONE && mayGoOn(); i++) {
             int place = i;
             int word = Make.instruction(drawn(2) * 10, drawn(8), 0, 1);
             both("program(" + place + ")", () -> number(model.program(place, word)), () -> number(real.program(place, word)));
@@ -131,11 +138,10 @@ final class RandomRunsTest {
             case 6: both("swap", () -> number(model.swap(m)), () -> number(real.swap(m))); break;
             case 7:
                 boolean single = !seldom(4);
-                model.allow(single);
-                real.allow(single);
+                both("allow", () -> { model.allow(single); return 0; }, () -> { real.allow(single); return 0; });
                 break;
             case 8:
-                if (seldom(12) || real.state(0) == 0 && seldom(2)) {
+                if (seldom(12) || model.state(0) == 0 && seldom(2)) {
                     both("start()", () -> number(model.start()), () -> number(real.start()));
                 }
                 break;
@@ -146,28 +152,24 @@ final class RandomRunsTest {
         }
     }
 
-    private void compareAll() {
-        for (int m = -1; m <= 3; m++) {
-            int module = m;
-            for (int k = -1; k <= 32; k++) {
-                int index = k;
-                both("code(" + m + ", " + k + ")", () -> model.code(module, index), () -> real.code(module, index));
-            }
-            for (int k = -1; k <= 8; k++) {
-                int index = k;
-                both("module(" + m + ", " + k + ")", () -> model.module(module, index), () -> real.module(module, index));
-                both("register(" + m + ", " + k + ")", () -> model.register(module, index),
-                    () -> real.register(module, index));
-            }
-        }
-        for (int k = -1; k <= 7; k++) {
-            int what = k;
-            both("state(" + k + ")", () -> model.state(what), () -> real.state(what));
-        }
-        compareOut(0);
-        compareOut(real.state(3) - 1);
-        compareOut(real.state(4));
-        compareOut(300);
+    private boolean mayGoOn() {
+        return calls <= MOST_CALLS - CALLS_TO_COMPARE_ALL - CALLS_OF_A_ROUND;
+    }
+
+    private void compareCode(int m, int word) {
+        both("code(" + m + ", " + word + ")", () -> model.code(m, word), () -> real.code(m, word));
+    }
+
+    private void compareModule(int m, int what) {
+        both("module(" + m + ", " + what + ")", () -> model.module(m, what), () -> real.module(m, what));
+    }
+
+    private void compareRegister(int m, int k) {
+        both("register(" + m + ", " + k + ")", () -> model.register(m, k), () -> real.register(m, k));
+    }
+
+    private void compareState(int what) {
+        both("state(" + what + ")", () -> model.state(what), () -> real.state(what));
     }
 
     private void compareOut(int i) {
@@ -175,16 +177,55 @@ final class RandomRunsTest {
         both("perfect(" + i + ")", () -> model.perfect(i), () -> real.perfect(i));
     }
 
+    private void compareAll() {
+        for (int m = 0; m < 3; m++) {
+            for (int word = 0; word < 32; word++) {
+                compareCode(m, word);
+            }
+            for (int what = 0; what < 6; what++) {
+                compareModule(m, what);
+            }
+            for (int k = 0; k < 8; k++) {
+                compareRegister(m, k);
+            }
+        }
+        for (int what = 0; what < 7; what++) {
+            compareState(what);
+        }
+        compareOut(0);
+        compareOut(model.state(3) - 1);
+        compareOut(model.state(4));
+        compareOut(300);
+    }
+
+    private void compareOne() {
+        int m = drawn(3);
+        switch (drawn(10)) {
+            case 0: compareOut(drawn(8) - 1); break;
+            case 1: case 2: compareState(drawn(9) - 1); break;
+            case 3: compareState(0); break;
+            case 4: compareCode(drawn(5) - 1, drawn(35) - 1); break;
+            case 5: compareCode(m, model.state(1) % 32); break;
+            case 6: compareRegister(drawn(5) - 1, drawn(10) - 1); break;
+            case 7: compareRegister(m, drawn(8)); break;
+            case 8: compareModule(drawn(5) - 1, drawn(8) - 1); break;
+            default: compareModule(m, drawn(6)); break;
+        }
+    }
+
     private void go() {
-        compareAll();
+        compareOne();
         if (seldom(3)) {
             drawCall();
         }
         writeProgram();
-        compareAll();
-        for (int k = 0; k < CALLS; k++) {
+        while (mayGoOn()) {
             drawCall();
-            compareAll();
+            compareOne();
+        }
+        compareAll();
+        if (calls > MOST_CALLS) {
+            Check.tellWrong(run + "has " + calls + " calls");
         }
     }
 

@@ -85,7 +85,7 @@ final class StepAndWordsTest {
         x.step(3 * 50);
         Check.same("words out", 350, x.state(3));
         Check.same("words out of the PERFECT one", 350, x.state(4));
-        for (int i = 0; i < 300; i++) {
+        for (int i = 2; i < 300; i += 3) {
             Check.same("output(" + i + ")", i + 1, x.output(i));
             Check.same("perfect(" + i + ")", i + 1, x.perfect(i));
         }
